@@ -8,7 +8,7 @@ public final class RealRoots {
     private static final int MOST_VALUE = 1000;
     private static final int MOST_NUMBER = 1000000;
     private static final int MOST_BITS = 40;
-    // 2^10 is above every leading coefficient, so so many bits tell the one fraction a root can be.
+    // 2^10 is above every leading coefficient: so many bits leave one fraction that a root can be.
     private static final int FRACTION_BITS = 10;
     private static final long MOST_ANSWER = 1000000000000000000L;
     private static final long UNKNOWN = -4000000000000000000L;
@@ -506,9 +506,7 @@ public final class RealRoots {
             withoutRepeats(c.value);
             narrow(c.free);
             signRow(c.free);
-            c.turnsLow = chain.turnsFar(-1);
-            c.many = Math.min(MOST_ROOTS, Math.max(0, c.turnsLow - chain.turnsFar(1)));
-            c.apart = c.many == 1;
+            c.many = Math.min(MOST_ROOTS, Math.max(0, chain.turnsFar(-1) - chain.turnsFar(1)));
             findWholes(c);
             tellApart(c);
             c.settled = true;
@@ -539,7 +537,7 @@ public final class RealRoots {
                 int middle = Math.floorDiv(low[i] + high[i], 2);
                 spot.number(middle, 1);
                 chain.look(spot);
-                int below = c.turnsLow - chain.turns - (chain.first == 0 ? 1 : 0);
+                int below = chain.rootsBelow();
                 // One look serves all roots that are still sought.
                 for (int j = i; j < c.many; j++) {
                     if (j < below) {
@@ -553,6 +551,7 @@ public final class RealRoots {
         }
     }
 
+    /** As many bits as make the roots differ; the chain is the sign row of c.free. */
     private void tellApart(Curve c) {
         boolean close = c.many > 1;
         for (int step = 0; step < Place.MOST && close; step++) {
@@ -560,11 +559,10 @@ public final class RealRoots {
             for (int i = 0; i < c.many; i++) {
                 if (meetsNeighbour(c, i)) {
                     close = true;
-                    deepen(c, i);
+                    deepenByCount(c, i);
                 }
             }
         }
-        c.apart = true;
     }
 
     private static boolean meetsNeighbour(Curve c, int i) {
@@ -572,25 +570,29 @@ public final class RealRoots {
             || (i + 1 < c.many && c.place[i].against(c.place[i + 1]) == 0);
     }
 
-    /** One bit more of root i. */
+    /** One bit more of root i, by counting roots; the chain is the sign row of c.free. */
+    private void deepenByCount(Curve c, int i) {
+        Place r = c.place[i];
+        if (r.lengthen()) {
+            spot.start(r);
+            chain.look(spot);
+            if (chain.rootsBelow() > i) {
+                r.clearLast();
+            }
+        }
+    }
+
+    /** One bit more of root i, which is told apart from the others. */
     private void deepen(Curve c, int i) {
         Place r = c.place[i];
-        if (!r.lengthen()) {
-            return;
-        }
-        spot.start(r);
-        boolean above;
-        if (c.apart) {
+        if (r.lengthen()) {
             // The free part turns its sign at every root, and is above 0 right of the last.
             int right = (c.many - i) % 2 == 1 ? 1 : -1;
+            spot.start(r);
             spot.load(c.free);
-            above = spot.signOf(spot.small, 0, spot.top) == right;
-        } else {
-            chain.look(spot);
-            above = c.turnsLow - chain.turns - (chain.first == 0 ? 1 : 0) > i;
-        }
-        if (above) {
-            r.clearLast();
+            if (spot.signOf(spot.small, 0, spot.top) == right) {
+                r.clearLast();
+            }
         }
     }
 
@@ -610,7 +612,7 @@ public final class RealRoots {
             if (from == 0) {
                 return true;
             }
-            spot.end(r);
+            spot.goToEnd(r);
             int to = spot.signOf(spot.small, 0, spot.top);
             if (to != 0) {
                 return from != to;
@@ -627,7 +629,7 @@ public final class RealRoots {
         Curve d = curves[two / MOST_ROOTS];
         int i = one % MOST_ROOTS;
         int j = two % MOST_ROOTS;
-        if (c == d) {
+        if (one / MOST_ROOTS == two / MOST_ROOTS) {
             return Integer.compare(i, j);
         }
         Place r = c.place[i];
@@ -691,9 +693,11 @@ public final class RealRoots {
             for (int i = 0; i < many; i++) {
                 int code = p * MOST_ROOTS + i;
                 int way = 1;
-                while (place < lineLength && way > 0) {
+                for (; place < lineLength; place++) {
                     way = order(code, line[place]);
-                    place += way > 0 ? 1 : 0;
+                    if (way <= 0) {
+                        break;
+                    }
                 }
                 if (way != 0) {
                     insert(place, code);
@@ -724,9 +728,7 @@ public final class RealRoots {
         final int[] free = new int[TERMS];
         final Place[] place = new Place[MOST_ROOTS];
         boolean settled = false;
-        boolean apart = false;
         int many = 0;
-        int turnsLow = 0;
 
         Curve() {
             for (int i = 0; i < MOST_ROOTS; i++) {
@@ -832,10 +834,9 @@ public final class RealRoots {
             upper.add(right, 1);
         }
 
-        /** The start and one of the last known bit: the root is below it. */
-        void end(Place r) {
+        /** From the start of a root on by one of its last known bit: the root is below that. */
+        void goToEnd(Place r) {
             int words = (r.depth + Big.BITS - 1) / Big.BITS;
-            start(r);
             right.put(1L << (words * Big.BITS - r.depth));
             upper.add(right, 1);
         }
@@ -877,7 +878,7 @@ public final class RealRoots {
         int length = 0;
         /** What the last look has found: changes of sign, and the first one's sign. */
         int turns = 0;
-        int first = 0;
+        private int first = 0;
         private Big left = new Big();
         private final Big right = new Big();
 
@@ -896,11 +897,10 @@ public final class RealRoots {
                 term[TERMS + k].put(b[k]);
             }
             length = tops[1] == NONE ? 1 : 2;
-            boolean more = length == 2;
-            while (more && length < MOST && tops[length - 1] > 0) {
+            // Behind one of degree 0 only ZERO could come.
+            for (int step = 2; step == length && step < MOST && tops[step - 1] > 0; step++) {
                 divide();
-                more = tops[length] != NONE;
-                length += more ? 1 : 0;
+                length += tops[step] != NONE ? 1 : 0;
             }
         }
 
@@ -958,6 +958,11 @@ public final class RealRoots {
                 last = side;
             }
             return found;
+        }
+
+        /** How many roots of the first one are below the last look; for a sign row of one without repeats. */
+        int rootsBelow() {
+            return turnsFar(-1) - turns - (first == 0 ? 1 : 0);
         }
 
         /** Coefficient k of the last polynomial times what makes its lead the given one; it must be whole. */
@@ -1055,7 +1060,7 @@ public final class RealRoots {
 
         /** 2^31 to the power of words. */
         void putUnit(int words) {
-            put(0);
+            size = 0;
             for (int k = 0; k <= words && k < LIMBS; k++) {
                 limb[k] = k == words ? 1 : 0;
                 size = k + 1;
