@@ -474,8 +474,8 @@ public final class RealRoots {
             return;
         }
         long lead = shared[by];
-        // The divisor is primitive and goes into a: each quotient is whole.
-        // It takes the place of the term that it clears, 'by' places above its own.
+        // The divisor is primitive and goes into a, so each part is whole.
+        // Each stands for a while where the term was that it clears, 'by' places above its own.
         for (int k = top; k >= by; k--) {
             long part = lead == 0 ? 0 : wide[k] / lead;
             for (int j = 0; j < by; j++) {
@@ -663,12 +663,15 @@ public final class RealRoots {
         ratio.d = 0;
         deepenTo(c, i, FRACTION_BITS);
         int top = topOf(c.free);
-        long lead = top < 0 ? 0 : c.free[top];
+        if (top < 0) {
+            return;
+        }
+        long lead = c.free[top];
         // A fraction's lower number goes into the lead: lead times the root is whole, and this one.
         long near = -Math.floorDiv(-(c.place[i].scaled(FRACTION_BITS) * lead), 1L << FRACTION_BITS);
         spot.number(near, lead);
         spot.load(c.free);
-        if (lead == 0 || spot.signOf(spot.small, 0, spot.top) != 0) {
+        if (spot.signOf(spot.small, 0, spot.top) != 0) {
             return;
         }
         for (int k = 0; k < TERMS; k++) {
@@ -702,7 +705,7 @@ public final class RealRoots {
                 if (way != 0) {
                     insert(place, code);
                 }
-                standsFor[code] = line[place];
+                standsFor[code] = place < lineLength ? line[place] : code;
             }
         }
         lined = true;

@@ -180,11 +180,9 @@ public final class RealRootsPromises {
         b = add(x, 6, 9, 0, 0, 6, 9);
         due(x.make(4, a, b), 2);
         holds(x, 2, 2, 3);
-        // a divisor with greater coefficients than those of both: none here, but degree 5 with itself
         c = add(x, -1000, 999, 0, 0, 0, -998);
         due(x.make(4, c, c), 4);
         holds(x, 4, 1000, -999, 0, 0, 0, 998);
-        // the divisor (x + 7)^4 of both is beyond the bounds: 2401
         a = add(x, -7, -1);
         due(x.make(2, a, a), 6);
         due(x.make(2, 6, a), 7);
@@ -192,6 +190,11 @@ public final class RealRootsPromises {
         due(x.make(2, 7, a), -4);
         due(x.make(4, 6, 7), 8);
         holds(x, 8, 49, 14, 1);
+        // (x - 1) and (x^2 - x + 1) times (x + 1) (999 x + 1000): that one has 1999 x
+        a = add(x, -1000, -999, 1000, 999);
+        b = add(x, 1000, 999, 0, 1000, 999);
+        due(x.make(4, a, b), -4);
+        due(x.count(), 11);
     }
 
     private static void makeOfOne() {
@@ -240,10 +243,9 @@ public final class RealRootsPromises {
         due(x.make(8, zero, 0), -3);
         due(x.make(3, zero, 0), 1);
         due(x.degree(1), -1);
-        // -2 (x - 1)^3 (2 x + 3)^2
-        int a = add(x, 18, -30, -22, 50, 0, -16);
-        due(x.at(a, 1, 1), 0);
-        holds(x, a, 18, -30, -22, 50, 0, -16);
+        // (x - 1) (1000 x^4 + 999 x^3 - x^2 - 1001 x - 997), that one with the root 1 again
+        int a = add(x, 997, 4, -1000, -1000, -1, 1000);
+        due(x.make(5, a, 0), -4);
         // -8 (x - 1)^2 (x + 1)^2, and (x^2 + 1)^2 x: no real root but 0
         int b = add(x, -8, 0, 16, 0, -8);
         due(x.make(5, b, 0), 4);
@@ -260,8 +262,13 @@ public final class RealRootsPromises {
         due(x.make(5, 11, 0), -1);
         due(x.polynomial(), 11);
         due(x.make(5, 11, 0), -3);
-        due(x.make(5, a, 0), -4);
+        due(x.make(5, b, 0), -4);
         due(x.make(0, a, 12), -1);
+        RealRoots y = new RealRoots();
+        // -2 (x - 1)^3 (2 x + 3)^2
+        int f = add(y, 18, -30, -10, 30, 0, -8);
+        due(y.make(5, f, 0), 1);
+        holds(y, 1, -3, 1, 2);
     }
 
     private static void degree() {
@@ -333,6 +340,10 @@ public final class RealRootsPromises {
         due(x.times(e, 1), 2);
         due(x.times(add(x, 1, 0, 1), 0), -1);
         due(x.times(7, 0), -1);
+        // the same with both repeated: (2 x - 1)^2 (x - 1)^2
+        int f = add(x, 1, -6, 13, -12, 4);
+        due(x.times(f, 0), 2);
+        due(x.times(f, 1), 2);
     }
 
     private static void floor() {
@@ -486,6 +497,12 @@ public final class RealRootsPromises {
         due(x.compare(d, 0, e, 1), -1);
         due(x.compare(d, 1, e, 1), 0);
         due(x.compare(e, 1, d, 0), 1);
+        // x, and x (2 x - 1) with two roots where the first has one
+        int f = add(x, 0, 1);
+        int g = add(x, 0, -1, 2);
+        due(x.compare(f, 0, g, 1), -1);
+        due(x.compare(g, 1, f, 0), 1);
+        due(x.compare(f, 0, g, 0), 0);
     }
 
     private static void rankAndAll() {
@@ -640,6 +657,10 @@ public final class RealRootsPromises {
         due(x.at(b, 300000, 700000), 0);
         due(x.at(b, 300000, 699999), 1);
         due(x.at(b, 299999, 700000), -1);
+        // 2^31 and 2^62, and the same below 0: a further limb comes with the last sum
+        due(x.at(add(x, 213, 859, 1000), 1465, 1), 1);
+        due(x.at(add(x, 256, 768, 768, 256), 262143, 1), 1);
+        due(x.at(add(x, -256, -768, -768, -256), 262143, 1), -1);
     }
 
     private static void newton() {
@@ -707,6 +728,10 @@ public final class RealRootsPromises {
         due(step(x, b, 1, 4575, 0), BEYOND);
         due(step(x, b, 1, 4575, 1), BEYOND);
         due(step(x, b, 1, 1000000, 0), BEYOND);
+        // the lower number is 10^18
+        int e = add(x, -3, 619, -752, 32, 24, 625);
+        due(step(x, e, 3029, 3125, 0), 742533489108865131L);
+        due(step(x, e, 3029, 3125, 1), 1000000000000000000L);
         // with the slope below 0 the lower number is above 0 all the same
         int c = add(x, 0, -1, 0, 0, 0, -1);
         due(step(x, c, 1, 4573, 0), 2);
