@@ -18,7 +18,7 @@ public final class RealRoots {
     private final Curve[] curves = new Curve[MOST_CURVES];
     private int held = 0;
 
-    // All work is done on these, so that no call makes an object.
+    // All work is done on these, so that no call makes an object but newton's exception.
     private final Chain chain = new Chain();
     private final Spot spot = new Spot();
     private final Ratio ratio = new Ratio();
