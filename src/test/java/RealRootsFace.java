@@ -32,6 +32,12 @@ public final class RealRootsFace {
                     System.out.println("not plainly public: " + m);
                     wrong++;
                 }
+                Class<?>[] thrown = m.getName().equals("newton") ? new Class<?>[] {ArithmeticException.class}
+                    : new Class<?>[0];
+                if (!Arrays.equals(m.getExceptionTypes(), thrown)) {
+                    System.out.println("what it throws is not as due: " + m);
+                    wrong++;
+                }
             }
         }
         for (Method m : RealRoots.class.getDeclaredMethods()) {
