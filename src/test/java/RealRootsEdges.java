@@ -534,11 +534,11 @@ public final class RealRootsEdges {
         int one = add(x, -1000);
         due(x.row(one), 1);
         due(x.changes(one, 0, 1), 0);
-        int line = add(x, 0, 0, 0, 0, 0, 1);
         // x^5 and 5 x^4: no remainder
-        due(x.row(line), 2);
-        due(x.changes(line, -1, 1), 1);
-        due(x.changes(line, 1, 1), 0);
+        int two = add(x, 0, 0, 0, 0, 0, 1);
+        due(x.row(two), 2);
+        due(x.changes(two, -1, 1), 1);
+        due(x.changes(two, 1, 1), 0);
         // x^5 + 1, 5 x^4, -1
         int three = add(x, 1, 0, 0, 0, 0, 1);
         due(x.row(three), 3);
@@ -1119,7 +1119,7 @@ public final class RealRootsEdges {
         due(x.make(9, b, 4), -4);
         due(x.make(9, b, -4), -4);
         due(x.make(9, c, 11), -4);
-        // 1000^5 is 2^15 times an odd number: its lowest bits tell nothing
+        // 1000^5 is more than an int holds
         due(x.make(9, b, 1000), -4);
         due(x.make(9, b, -1000), -4);
         unchanged(x, before);
@@ -1719,7 +1719,7 @@ public final class RealRootsEdges {
             due(x.newton(p, 500000, 1000000, what), THROWN);
         }
         unchanged(x, before);
-        // 1 / 2 less 10^-6 has a step, of no small size: (8 n^3) / (d (12 n^2 - 3 d^2)), lowest terms
+        // elsewhere, also very near, there is a step: 8 x^3 / (12 x^2 - 3)
         due(x.newton(p, 2, 1, 0), 64);
         due(x.newton(p, 2, 1, 1), 45);
         due(x.newton(p, 499999, 1000000, 0) == THROWN ? 1 : 0, 0);
@@ -1729,12 +1729,12 @@ public final class RealRootsEdges {
         due(x.newton(square, 1, 1, 0), THROWN);
         due(x.newton(square, 3, 1, 0), 2);
         due(x.newton(square, 3, 1, 1), 1);
-        // derivatives with coefficients beyond the bounds: 5000 x^4 - 5000
-        int great = add(x, 0, -1000, 0, 0, 0, 200);
-        due(x.newton(great, 1, 1, 0), THROWN);
-        due(x.newton(great, -1, 1, 1), THROWN);
-        due(x.newton(great, 0, 1, 0), 0);
-        due(x.newton(great, 0, 1, 1), 1);
+        // a derivative with COEFFICIENTS beyond the bounds, 5000 x^4 - 4000 x^3, is one all the same
+        int great = add(x, 1, 0, 0, 0, -1000, 1000);
+        due(x.newton(great, 4, 5, 0), THROWN);
+        due(x.newton(great, 0, 1, 1), THROWN);
+        due(x.newton(great, 1, 1, 0), 999);
+        due(x.newton(great, 1, 1, 1), 1000);
     }
 
     private static void newtonUpperBeyond() {
@@ -1757,7 +1757,7 @@ public final class RealRootsEdges {
         due(x.newton(p, 100000, 1, 0), BEYOND);
         due(x.newton(p, 100000, 1, 1), BEYOND);
         due(x.newton(p, -100000, 1, 0), 1 - FULL);
-        // what stands in lowest terms counts: 4 10^5 / 5 from x^5, where 4 10^5^5 is beyond by far
+        // what stands in lowest terms counts: x^5 leads to 4 / 5 of where it is, by way of far greater numbers
         int q = add(x, 0, 0, 0, 0, 0, 1000);
         due(x.newton(q, 100000, 1, 0), 80000);
         due(x.newton(q, 100000, 1, 1), 1);
@@ -1854,7 +1854,7 @@ public final class RealRootsEdges {
         due(x.bound(add(x, -6, 1, 1)), 3);
         due(x.bound(add(x, -6, -1, 1)), 3);
         due(x.bound(add(x, -9, 0, 1)), 3);
-        // the roots of 9 and of 10, and (x - 3) (x - 2) with both on one side
+        // the roots of 10, and both on one side: 2 and 3, -3 and -2
         due(x.bound(add(x, -10, 0, 1)), 4);
         due(x.bound(add(x, 6, -5, 1)), 3);
         due(x.bound(add(x, 6, 5, 1)), 3);
@@ -1863,7 +1863,7 @@ public final class RealRootsEdges {
         int far = add(x, -1000, -1000, -1000, -1000, -1000, 1);
         due(x.bound(far), 1001);
         due(x.bound(x.make(7, far, 0)), 1001);
-        // 1 / 1000 less 10^-18 is below 1, 1 / 1000 as well
+        // 1 / 1000 less 10^-18
         due(x.bound(add(x, -1, 1000, 0, 0, 0, 1)), 1);
         due(x.count(), 12);
     }
