@@ -734,6 +734,7 @@ public final class RealRootsEdges {
         due(x.coefficient(0, 0), 0);
         int p = add(x, 1, 2, 3, 4, 5, 6);
         int q = add(x, -1000, 7, 7, 7, 7, 1000);
+        String before = state(x);
         due(x.coefficient(p, 0), 1);
         due(x.coefficient(p, 5), 6);
         due(x.coefficient(q, 0), -1000);
@@ -747,6 +748,7 @@ public final class RealRootsEdges {
                 due(x.coefficient(other, power), 0);
             }
         }
+        unchanged(x, before);
     }
 
     private static void makeOfUnknownKind() {
@@ -1150,12 +1152,14 @@ public final class RealRootsEdges {
         Probe x = new Probe();
         due(x.degree(0), -9);
         int p = x.polynomial();
+        String before = state(x);
         due(x.degree(p), -1);
         due(x.degree(p + 1), -9);
         due(x.degree(-1), -9);
         due(x.degree(12), -9);
         due(x.degree(LOW), -9);
         due(x.degree(HIGH), -9);
+        unchanged(x, before);
         due(x.set(p, 0, 1), 1000);
         due(x.degree(p), 0);
         due(x.set(p, 5, -1), 1000);
@@ -1168,11 +1172,13 @@ public final class RealRootsEdges {
         due(x.roots(0), -1);
         int p = x.polynomial();
         due(x.roots(p), -3);
+        String before = state(x);
         due(x.roots(p + 1), -1);
         due(x.roots(-1), -1);
         due(x.roots(12), -1);
         due(x.roots(LOW), -1);
         due(x.roots(HIGH), -1);
+        unchanged(x, before);
         due(x.set(p, 0, 1), 1000);
         due(x.roots(p), 0);
         due(x.set(p, 0, 0), 1001);
@@ -1212,6 +1218,7 @@ public final class RealRootsEdges {
         int p = add(x, 0, 0, -1, 1);
         int none = add(x, 1, 0, 1);
         int plain = add(x, 5);
+        String before = state(x);
         due(x.times(p, 0), 2);
         due(x.times(p, 1), 1);
         for (int i : new int[] {2, -1, 3, LOW, HIGH}) {
@@ -1224,6 +1231,7 @@ public final class RealRootsEdges {
             due(x.times(4, i), -1);
             due(x.times(-1, i), -1);
         }
+        unchanged(x, before);
     }
 
     private static void floorBits() {
@@ -1250,6 +1258,7 @@ public final class RealRootsEdges {
         due(x.floor(0, 0, 0), UNKNOWN);
         int zero = x.polynomial();
         int p = add(x, -2, 0, 1);
+        String before = state(x);
         for (int bits : new int[] {0, 40, -1, 41}) {
             due(x.floor(zero, 0, bits), UNKNOWN);
             due(x.floor(zero, -1, bits), UNKNOWN);
@@ -1260,6 +1269,7 @@ public final class RealRootsEdges {
             due(x.floor(LOW, 0, bits), UNKNOWN);
             due(x.floor(p, HIGH, bits), UNKNOWN);
         }
+        unchanged(x, before);
         due(x.floor(p, 1, 40), 1554944255987L);
     }
 
@@ -1306,6 +1316,7 @@ public final class RealRootsEdges {
         Probe x = new Probe();
         int p = add(x, 3, 6);
         int q = add(x, -2, 0, 1);
+        String before = state(x);
         due(x.fraction(p, 0, 0), -1);
         due(x.fraction(p, 0, 1), 2);
         for (int what : new int[] {-1, 2, 3, LOW, HIGH}) {
@@ -1313,6 +1324,7 @@ public final class RealRootsEdges {
             due(x.fraction(q, 0, what), OUTSIDE);
             due(x.fraction(q, 1, what), OUTSIDE);
         }
+        unchanged(x, before);
     }
 
     private static void fractionOfUnknown() {
@@ -1321,6 +1333,7 @@ public final class RealRootsEdges {
         due(x.fraction(0, 0, 0), UNKNOWN);
         int zero = x.polynomial();
         int p = add(x, 0, -1, 1);
+        String before = state(x);
         for (int what : new int[] {0, 1, -1, 2}) {
             due(x.fraction(zero, 0, what), UNKNOWN);
             due(x.fraction(p, 2, what), UNKNOWN);
@@ -1329,6 +1342,7 @@ public final class RealRootsEdges {
             due(x.fraction(-1, 0, what), UNKNOWN);
             due(x.fraction(HIGH, LOW, what), UNKNOWN);
         }
+        unchanged(x, before);
         due(x.fraction(p, 1, 0), 1);
     }
 
@@ -1376,6 +1390,7 @@ public final class RealRootsEdges {
         int p = add(x, -2, 0, 1);
         int plain = add(x, -1000);
         int none = add(x, 1, 0, 1);
+        String before = state(x);
         due(x.sign(zero, p, 0), 0);
         due(x.sign(zero, p, 1), 0);
         due(x.sign(plain, p, 0), -1);
@@ -1396,6 +1411,7 @@ public final class RealRootsEdges {
         }
         due(x.sign(HIGH, p, 0), -9);
         due(x.sign(LOW, p, 0), -9);
+        unchanged(x, before);
     }
 
     /** Two polynomials, each with a root near 1 / 1000, the first's above the second's by some 10^-30. */
@@ -1433,6 +1449,7 @@ public final class RealRootsEdges {
         int zero = x.polynomial();
         int p = add(x, -2, 0, 1);
         int plain = add(x, 7);
+        String before = state(x);
         due(x.compare(p, 1, p, 1), 0);
         for (int q : new int[] {zero, plain, 3, -1, 12, LOW, HIGH}) {
             due(x.compare(q, 0, p, 0), -9);
@@ -1444,6 +1461,7 @@ public final class RealRootsEdges {
             due(x.compare(p, 0, p, i), -9);
             due(x.compare(p, i, p, i), -9);
         }
+        unchanged(x, before);
     }
 
     private static void compareVeryNear() {
@@ -1476,6 +1494,7 @@ public final class RealRootsEdges {
         due(x.rank(zero, 0), -1);
         int p = add(x, -2, 0, 1);
         int plain = add(x, 7);
+        String before = state(x);
         due(x.rank(p, 0), 0);
         due(x.rank(p, 1), 1);
         for (int i : new int[] {2, -1, 5, LOW, HIGH}) {
@@ -1484,6 +1503,7 @@ public final class RealRootsEdges {
         for (int q : new int[] {zero, plain, 3, -1, 12, LOW, HIGH}) {
             due(x.rank(q, 0), -1);
         }
+        unchanged(x, before);
     }
 
     private static void rankCountsOnce() {
@@ -1586,6 +1606,7 @@ public final class RealRootsEdges {
         Probe x = new Probe();
         due(x.between(0, 0, 1, 1, 1), -1);
         int zero = x.polynomial();
+        String before = state(x);
         due(x.between(zero, 0, 1, 1, 1), -3);
         due(x.between(zero, 1, 1, 1, 1), -3);
         for (int p : new int[] {1, -1, 12, LOW, HIGH}) {
@@ -1594,6 +1615,7 @@ public final class RealRootsEdges {
             due(x.between(p, 0, 0, 1, 1), -1);
             due(x.between(p, 0, 1, 1, 1000001), -1);
         }
+        unchanged(x, before);
         due(x.set(zero, 0, 1), 1000);
         due(x.between(zero, 0, 1, 1, 1), 0);
     }
@@ -1603,6 +1625,7 @@ public final class RealRootsEdges {
         Probe x = new Probe();
         due(x.changes(0, 0, 1), -1);
         int zero = x.polynomial();
+        String before = state(x);
         due(x.changes(zero, 0, 1), -3);
         due(x.changes(zero, 1000000, 1000000), -3);
         due(x.changes(zero, 1000001, 1000000), -2);
@@ -1612,6 +1635,7 @@ public final class RealRootsEdges {
             due(x.changes(p, 0, 0), -1);
             due(x.changes(p, 1000001, 1), -1);
         }
+        unchanged(x, before);
         due(x.set(zero, 0, 1), 1000);
         due(x.changes(zero, 0, 1), 0);
         due(x.set(zero, 0, 0), 1001);
@@ -1623,10 +1647,12 @@ public final class RealRootsEdges {
         Probe x = new Probe();
         due(x.row(0), -1);
         int p = x.polynomial();
+        String before = state(x);
         due(x.row(p), -3);
         for (int q : new int[] {1, -1, 12, LOW, HIGH}) {
             due(x.row(q), -1);
         }
+        unchanged(x, before);
         due(x.set(p, 0, 1), 1000);
         due(x.row(p), 1);
         due(x.set(p, 1, 1), 1000);
@@ -1644,6 +1670,7 @@ public final class RealRootsEdges {
         due(x.at(0, 0, 1), -9);
         due(x.at(0, 0, 0), -9);
         int zero = x.polynomial();
+        String before = state(x);
         due(x.at(zero, 0, 1), 0);
         due(x.at(zero, 1000000, 1), 0);
         due(x.at(zero, 1000001, 1), -8);
@@ -1653,6 +1680,7 @@ public final class RealRootsEdges {
             due(x.at(p, 1000001, 1), -9);
             due(x.at(p, 1, 0), -9);
         }
+        unchanged(x, before);
     }
 
     private static void signsAtTheBounds() {
@@ -1822,10 +1850,12 @@ public final class RealRootsEdges {
         Probe x = new Probe();
         due(x.bound(0), -1);
         int p = x.polynomial();
+        String before = state(x);
         due(x.bound(p), -3);
         for (int q : new int[] {1, -1, 12, LOW, HIGH}) {
             due(x.bound(q), -1);
         }
+        unchanged(x, before);
         due(x.set(p, 0, -1000), 1000);
         due(x.bound(p), 0);
         due(x.set(p, 2, -1), 1000);
