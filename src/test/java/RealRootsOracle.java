@@ -509,39 +509,110 @@ public final class RealRootsOracle {
 
     /** Fills polynomial p with one of several tempers. */
     private static void fill(RealRoots x, Slow s, int p, StringBuilder told) {
-        BigInteger[] a = {ONE};
-        int temper = below(7);
-        if (temper < 2) {
-            a = zeros(6);
-            int size = pick(1, 3, 10, 100, 1000);
-            int top = below(6);
-            for (int k = 0; k <= top; k++) {
-                a[k] = BigInteger.valueOf(any(-size, size));
-            }
-        } else if (temper < 6) {
-            int factors = 1 + below(5);
-            int size = pick(1, 2, 4);
-            for (int f = 0; f < factors; f++) {
-                BigInteger[] b = below(3) == 0
-                    ? new BigInteger[] {BigInteger.valueOf(any(-size, size)), BigInteger.valueOf(any(-2, 2)), ONE}
-                    : new BigInteger[] {BigInteger.valueOf(any(-size, size)), BigInteger.valueOf(any(1, size))};
-                BigInteger[] c = times(a, b);
-                a = top(c) <= 5 ? c : a;
-            }
-        } else {
-            // two roots that are very near to one another: x^k - 2 (n x - 1)^2
-            int n = any(2, 22);
-            a = zeros(6);
-            a[0] = BigInteger.valueOf(-2);
-            a[1] = BigInteger.valueOf(4 * n);
-            a[2] = BigInteger.valueOf(-2 * n * n);
-            a[any(3, 5)] = BigInteger.valueOf(pick(1, -1));
-        }
+        BigInteger[] a = tempered(s, below(10));
         for (int k = 0; k < 6; k++) {
             int v = k < a.length ? a[k].intValue() : 0;
             v = v < -1000 || v > 1000 ? v % 1000 : v;
             due("set(" + p + ", " + k + ", " + v + ")", x.set(p, k, v), s.set(p, k, v), told);
         }
+    }
+
+    private static BigInteger[] tempered(Slow s, int temper) {
+        switch (temper) {
+            case 0:
+            case 1:
+                return scattered();
+            case 2:
+                return product(new BigInteger[] {ONE}, 4);
+            case 3:
+                return product(new BigInteger[] {ONE}, 2);
+            case 4:
+                return product(new BigInteger[] {ONE}, 1);
+            case 5:
+                return twins();
+            case 6:
+                return atTheBounds();
+            case 7:
+                return neighbour(s.all.get(below(s.all.size())));
+            case 8:
+                return kin(s.all.get(below(s.all.size())));
+            default:
+                return fractions();
+        }
+    }
+
+    private static BigInteger[] scattered() {
+        BigInteger[] a = zeros(6);
+        int size = pick(1, 3, 10, 100, 1000);
+        int top = below(6);
+        for (int k = 0; k <= top; k++) {
+            a[k] = BigInteger.valueOf(any(-size, size));
+        }
+        return a;
+    }
+
+    /** The given one times some of degree 1 and 2, as far as there is room. */
+    private static BigInteger[] product(BigInteger[] first, int size) {
+        BigInteger[] a = first;
+        int factors = 1 + below(5);
+        for (int f = 0; f < factors; f++) {
+            BigInteger[] b = below(3) == 0
+                ? new BigInteger[] {BigInteger.valueOf(any(-size, size)), BigInteger.valueOf(any(-2, 2)), ONE}
+                : new BigInteger[] {BigInteger.valueOf(any(-size, size)), BigInteger.valueOf(any(1, size))};
+            for (int again = pick(1, 1, 2, 3); again > 0; again--) {
+                BigInteger[] c = times(a, b);
+                a = top(c) <= 5 ? c : a;
+            }
+        }
+        return a;
+    }
+
+    /** Two roots that are very near to one another: x^k - 2 (n x - 1)^2. */
+    private static BigInteger[] twins() {
+        int n = any(2, 22);
+        BigInteger[] a = zeros(6);
+        a[0] = BigInteger.valueOf(-2);
+        a[1] = BigInteger.valueOf(4 * n);
+        a[2] = BigInteger.valueOf(-2 * n * n);
+        a[any(3, 5)] = BigInteger.valueOf(pick(1, -1));
+        return a;
+    }
+
+    private static BigInteger[] atTheBounds() {
+        BigInteger[] a = zeros(6);
+        for (int k = 0; k < 6; k++) {
+            a[k] = BigInteger.valueOf(pick(-1000, 1000, -999, 999, 0, 1));
+        }
+        return a;
+    }
+
+    /** Other than another polynomial by 1 in one coefficient: its roots are near to that one's. */
+    private static BigInteger[] neighbour(BigInteger[] other) {
+        BigInteger[] a = other.clone();
+        int k = below(6);
+        a[k] = a[k].add(BigInteger.valueOf(pick(1, -1)));
+        return a;
+    }
+
+    /** Shares some roots with another polynomial: a divisor of that one, with other factors. */
+    private static BigInteger[] kin(BigInteger[] other) {
+        if (top(other) < 1) {
+            return scattered();
+        }
+        BigInteger[] repeated = common(other, slope(other));
+        return product(top(repeated) > 0 && below(2) == 0 ? repeated : primitive(other), 2);
+    }
+
+    /** Roots that are fractions with lower numbers up to 31, or one with a lower number up to 1000. */
+    private static BigInteger[] fractions() {
+        if (below(3) == 0) {
+            return new BigInteger[] {BigInteger.valueOf(any(-1000, 1000)), BigInteger.valueOf(any(1, 1000))};
+        }
+        BigInteger[] a = {BigInteger.valueOf(pick(1, -1))};
+        for (int f = 0; f < 2; f++) {
+            a = times(a, new BigInteger[] {BigInteger.valueOf(any(-31, 31)), BigInteger.valueOf(any(1, 31))});
+        }
+        return a;
     }
 
     private static int someCurve(Slow s) {
@@ -564,13 +635,30 @@ public final class RealRootsOracle {
             : pick(1, 1, 2, 3, 7, any(1, 1000), any(1, 1000000), 1000000);
     }
 
+    /** A fraction, upper and lower number: some at a root, not in lowest terms, or close by it. */
+    private static int[] someFraction(Slow s) {
+        int p = s.all.isEmpty() ? -1 : below(s.all.size());
+        int many = s.rootsOf(p).size();
+        if (many == 0 || below(3) != 0) {
+            return new int[] {someUpper(), someLower()};
+        }
+        int i = below(many);
+        int d = (int) s.fraction(p, i, 1);
+        int times = d == 0 ? 1 : any(1, 1000000 / (1000 * d));
+        int lower = d == 0 ? pick(1, 10, 990) : d * times;
+        int upper = d == 0 ? s.rootsOf(p).get(i).multiply(BigInteger.valueOf(lower)).shiftRight(DEEP).intValueExact()
+            : (int) s.fraction(p, i, 0) * times;
+        return new int[] {upper + pick(0, 0, 0, 1, -1), lower};
+    }
+
     private static void call(RealRoots x, Slow s, StringBuilder told) {
         int p = someCurve(s);
         int q = someCurve(s);
         int i = someRoot(s, p);
         int j = someRoot(s, q);
-        int n = someUpper();
-        int d = someLower();
+        int[] spot = someFraction(s);
+        int n = spot[0];
+        int d = spot[1];
         switch (below(22)) {
             case 0:
                 int v = below(10) == 0 ? pick(1001, -1001, Integer.MIN_VALUE) : any(-5, 5);
@@ -620,8 +708,9 @@ public final class RealRootsOracle {
                 due("rank(" + p + ", " + i + ")", x.rank(p, i), s.rank(p, i), told);
                 break;
             case 14:
-                int m = someUpper();
-                int e = someLower();
+                int[] end = someFraction(s);
+                int m = end[0];
+                int e = end[1];
                 due("between(" + p + ", " + n + ", " + d + ", " + m + ", " + e + ")", x.between(p, n, d, m, e),
                     s.between(p, n, d, m, e), told);
                 break;
